@@ -2,7 +2,7 @@ import java.util.Random;
 
 /** Long runs of calls, drawn with fixed seeds, each answer compared with that of the model. */
 public final class ModelTest {
-    private static final int RUNS = 160;
+    private static final int RUNS = 300;
     private static final int CALLS = 512;
     private static final int[] ODD = {
         Integer.MIN_VALUE, -1000, -2, -1, 0, 1, 2, 3, 5, 6, 7, 8, 9, 10, 11, 12, 17, 18, 20, 27, 28, 49, 50, 51, 60,
@@ -35,7 +35,7 @@ public final class ModelTest {
     private void oneRun() {
         int calls = 0;
         while (calls < CALLS - 1 && !checks.anyWrong()) {
-            calls += calls < 12 ? begin(calls) : step(CALLS - 1 - calls);
+            calls += calls < 16 ? begin(calls) : step(CALLS - 1 - calls);
         }
         both("digest()", real::digest, model::digest);
         checks.same("deposits", real.count(4), model.depositsDue());
@@ -55,7 +55,10 @@ public final class ModelTest {
         if (call == 7) {
             return buyCrates(richBrands ? 400 : 5 + random.nextInt(60));
         }
-        return set(call == 8 ? 5 : random.nextInt(5), 2 + random.nextInt(9));
+        if (call == 8) {
+            return set(5, random.nextInt(2) == 0 ? 2 + random.nextInt(9) : 10 + random.nextInt(40));
+        }
+        return call == 9 ? set(random.nextInt(5), 2 + random.nextInt(90)) : fill();
     }
 
     // ---- what is drawn
@@ -84,14 +87,13 @@ public final class ModelTest {
     private int some(int there) {
         switch (random.nextInt(12)) {
             case 0:
-                return odd();
+                return random.nextInt(3) == 0 ? odd() : 1;
             case 1:
                 return there + 1;
             case 2:
             case 3:
-                return there;
             case 4:
-                return 1;
+                return there;
             case 5:
                 return 12;
             default:
@@ -111,14 +113,41 @@ public final class ModelTest {
         return brand >= 0 && brand < 8 ? shopNumber(shop, from + brand) : 1;
     }
 
+    /** A shop and a brand, mostly such that the shop has bottles of the brand; from is 10 for full ones, 20 for empty. */
+    private int[] shopAndBrand(int from) {
+        int[] pair = {aShop(), aBrand()};
+        for (int i = 0; i < 30 && shopOf(pair[0], pair[1], from) == 0 && !rarely(); i++) {
+            pair[0] = aShop();
+            pair[1] = aBrand();
+        }
+        return pair;
+    }
+
+    private int aBrandWith(int what) {
+        int b = aBrand();
+        for (int i = 0; i < 30 && brandNumber(b, what) == 0 && !rarely(); i++) {
+            b = aBrand();
+        }
+        return b;
+    }
+
+    /** Bottles are collected where there are crates, so most are taken back there. */
+    private int aShopWithCrates() {
+        int s = aShop();
+        for (int i = 0; i < 30 && shopNumber(s, 1) == 0 && !rarely(); i++) {
+            s = aShop();
+        }
+        return s;
+    }
+
     // ---- one call, or some that belong together; each tells how many calls it made
 
     private int step(int left) {
-        switch (random.nextInt(24)) {
+        switch (random.nextInt(26)) {
             case 0:
-                return rarely() ? addBrand(random.nextInt(4) - 1, random.nextInt(200)) : set(odd(), odd());
+                return random.nextInt(8) == 0 ? addBrand(random.nextInt(4) - 1, random.nextInt(200)) : set(odd(), odd());
             case 1:
-                return rarely() ? addShop(some(100000)) : buyCrates(random.nextInt(4) == 0 ? odd() : 1);
+                return random.nextInt(8) == 0 ? addShop(some(100000)) : buyCrates(rarely() ? odd() : 1);
             case 2:
                 return set(random.nextInt(6), random.nextInt(3) == 0 ? odd() : 2 + random.nextInt(90));
             case 3:
@@ -126,28 +155,31 @@ public final class ModelTest {
                 return fill();
             case 5:
             case 6:
-                return deliver();
             case 7:
+                return deliver();
             case 8:
-                return sell();
             case 9:
             case 10:
-                return takeBack();
+                return sell();
             case 11:
-                return random.nextInt(3) == 0 ? breaks() : lose();
             case 12:
             case 13:
-                return collect();
+                return takeBack();
             case 14:
-                return sort();
+                return random.nextInt(2) == 0 ? breaks() : lose();
             case 15:
-                return swap();
             case 16:
             case 17:
-                return left > 80 ? orders() : look();
+                return collect();
             case 18:
-                return random.nextInt(2) == 0 ? undo() : digest();
+                return sort();
             case 19:
+                return swap();
+            case 20:
+                return left > 80 ? orders() : look();
+            case 21:
+                return random.nextInt(3) == 0 ? undo() : look();
+            case 22:
                 return digest();
             default:
                 return look();
@@ -176,7 +208,7 @@ public final class ModelTest {
     }
 
     private int fill() {
-        int b = aBrand();
+        int b = aBrandWith(1);
         int many = some(brandNumber(b, 1));
         both("filled(" + b + ", " + many + ")", () -> real.filled(b, many), () -> model.filled(b, many));
         both("fill(" + b + ", " + many + ")", () -> real.fill(b, many), () -> model.fill(b, many));
@@ -184,9 +216,9 @@ public final class ModelTest {
     }
 
     private int deliver() {
-        int b = aBrand();
+        int b = aBrandWith(2);
         int s = aShop();
-        int crates = some(brandNumber(b, 2) / 12);
+        int crates = some(random.nextInt(3) == 0 ? brandNumber(b, 2) / 12 : couldDeliver(b, s));
         both("whyNotDeliver(" + b + ", " + s + ", " + crates + ")",
                 () -> real.whyNotDeliver(b, s, crates), () -> model.whyNotDeliver(b, s, crates));
         both("deliver(" + b + ", " + s + ", " + crates + ")",
@@ -194,17 +226,23 @@ public final class ModelTest {
         return 2;
     }
 
+    private int couldDeliver(int b, int s) {
+        return b >= 0 && b < model.count(0) && s >= 0 && s < model.count(1)
+                ? model.mostCrates(b, s) : 1;
+    }
+
     private int sell() {
-        int s = aShop();
-        int b = aBrand();
+        int[] pair = shopAndBrand(10);
+        int s = pair[0];
+        int b = pair[1];
         int many = some(shopOf(s, b, 10));
         both("sell(" + s + ", " + b + ", " + many + ")", () -> real.sell(s, b, many), () -> model.sell(s, b, many));
         return 1;
     }
 
     private int takeBack() {
-        int s = aShop();
-        int b = aBrand();
+        int s = aShopWithCrates();
+        int b = aBrandWith(5);
         int many = some(brandNumber(b, 5));
         both("takeBack(" + s + ", " + b + ", " + many + ")",
                 () -> real.takeBack(s, b, many), () -> model.takeBack(s, b, many));
@@ -212,8 +250,9 @@ public final class ModelTest {
     }
 
     private int breaks() {
-        int s = aShop();
-        int b = aBrand();
+        int[] pair = shopAndBrand(20);
+        int s = pair[0];
+        int b = pair[1];
         int many = some(Math.min(shopOf(s, b, 20), 6));
         both("breaks(" + s + ", " + b + ", " + many + ")",
                 () -> real.breaks(s, b, many), () -> model.breaks(s, b, many));
@@ -221,37 +260,40 @@ public final class ModelTest {
     }
 
     private int lose() {
-        int b = aBrand();
+        int b = aBrandWith(5);
         int many = some(Math.min(brandNumber(b, 5), 4));
         both("lose(" + b + ", " + many + ")", () -> real.lose(b, many), () -> model.lose(b, many));
         return 1;
     }
 
     private int collect() {
-        int s = aShop();
-        int b = aBrand();
+        int[] pair = shopAndBrand(20);
+        int s = pair[0];
+        int b = pair[1];
         int kind = rarely() ? odd() : brandNumber(b, 0);
-        int crates = some(Math.min(shopNumber(s, 1), shopNumber(s, 3) / 12));
+        int crates = some(Math.max(1, Math.min(shopNumber(s, 1), shopNumber(s, 3) / 12)));
+        both("bestShop(" + kind + ")", () -> real.bestShop(kind), () -> model.bestShop(kind));
         both("collected(" + s + ", " + b + ", " + crates + ")",
                 () -> real.collected(s, b, crates), () -> model.collected(s, b, crates));
         both("whyNotCollect(" + s + ", " + kind + ", " + crates + ")",
                 () -> real.whyNotCollect(s, kind, crates), () -> model.whyNotCollect(s, kind, crates));
         both("collect(" + s + ", " + kind + ", " + crates + ")",
                 () -> real.collect(s, kind, crates), () -> model.collect(s, kind, crates));
-        return 3;
+        return 4;
     }
 
     private int sort() {
-        int kind = aKind();
-        int many = some(model.count(8));
+        int b = aBrandWith(6);
+        int kind = rarely() ? aKind() : brandNumber(b, 0);
+        int many = some(brandNumber(b, 6));
         both("sort(" + kind + ", " + many + ")", () -> real.sort(kind, many), () -> model.sort(kind, many));
         return 1;
     }
 
     private int swap() {
-        int from = aBrand();
+        int from = aBrandWith(1);
         int to = aBrand();
-        int many = some(brandNumber(from, 1));
+        int many = some(Math.min(brandNumber(from, 1), 20));
         both("swap(" + from + ", " + to + ", " + many + ")",
                 () -> real.swap(from, to, many), () -> model.swap(from, to, many));
         return 1;
@@ -275,7 +317,7 @@ public final class ModelTest {
         for (int i = 0; i < many; i++) {
             text.append(i == 0 ? "" : ";").append(anOrder());
         }
-        if (random.nextInt(4) == 0) {
+        if (random.nextInt(5) == 0) {
             spoil(text);
         }
         int calls = 0;
@@ -294,20 +336,32 @@ public final class ModelTest {
     }
 
     private String anOrder() {
-        int s = random.nextInt(20) == 0 ? random.nextInt(6) : random.nextInt(Math.max(1, model.count(1)));
-        int b = random.nextInt(20) == 0 ? random.nextInt(8) : random.nextInt(Math.max(1, model.count(0)));
+        int[] full = inText(shopAndBrand(10));
+        int[] empty = inText(shopAndBrand(20));
+        int s = within(aShopWithCrates(), 6);
         switch (random.nextInt(5)) {
             case 0:
+                int b = within(aBrandWith(2), 8);
                 return "d" + b + ">" + s + "*" + (1 + random.nextInt(random.nextInt(4) == 0 ? 50 : 3));
             case 1:
-                return "s" + s + ":" + b + "*" + someInText(shopOf(s, b, 10));
+                return "s" + full[0] + ":" + full[1] + "*" + someInText(shopOf(full[0], full[1], 10));
             case 2:
-                return "r" + s + ":" + b + "*" + someInText(brandNumber(b, 5));
+                int out = within(aBrandWith(5), 8);
+                return "r" + s + ":" + out + "*" + someInText(brandNumber(out, 5));
             case 3:
-                return "b" + s + ":" + b + "*" + (1 + random.nextInt(random.nextInt(4) == 0 ? 500 : 3));
+                return "b" + empty[0] + ":" + empty[1] + "*" + (1 + random.nextInt(random.nextInt(4) == 0 ? 500 : 3));
             default:
-                return "c" + s + ":" + random.nextInt(3) + "*" + (1 + random.nextInt(random.nextInt(4) == 0 ? 50 : 3));
+                return "c" + empty[0] + ":" + within(brandNumber(empty[1], 0), 3) + "*"
+                        + (1 + random.nextInt(random.nextInt(4) == 0 ? 50 : 2));
         }
+    }
+
+    private static int within(int number, int bound) {
+        return Math.floorMod(number, bound);
+    }
+
+    private static int[] inText(int[] pair) {
+        return new int[] {within(pair[0], 6), within(pair[1], 8)};
     }
 
     private int someInText(int there) {
