@@ -88,9 +88,9 @@ public final class BottleLoop {
     private final Order order;
 
     public BottleLoop() {
-        now = new State();
+        trade = new Trade();
+        now = trade.state;
         past = new Past();
-        trade = new Trade(now);
         text = new Text();
         order = new Order();
     }
@@ -747,8 +747,8 @@ public final class BottleLoop {
         /** What a shop has left of each brand while bottles are picked; made once, since many calls need it. */
         private final int[] left;
 
-        private Trade(State state) {
-            this.state = state;
+        private Trade() {
+            state = new State();
             left = new int[MOST_BRANDS];
         }
 
