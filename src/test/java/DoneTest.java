@@ -340,7 +340,8 @@ public final class DoneTest {
         brandIs(x, 0, 1, 71);
         brandIs(x, 1, 1, 4);
         countIs(x, 8, 4);
-        checks.same("the rest", x.sort(0, 4), 0);
+        checks.same("one", x.sort(0, 1), 3);
+        checks.same("the rest", x.sort(0, 3), 0);
         brandIs(x, 1, 1, 8);
     }
 

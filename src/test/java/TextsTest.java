@@ -81,10 +81,13 @@ public final class TextsTest {
             errorIn(start + "100^");
             errorIn(start + "500^");
             errorIn(start + "5:^");
+            errorIn(start + "4:^");
+            errorIn(start + "/^");
         }
         for (String start : new String[] {"s0:0*", "r0:0*", "b0:0*"}) {
             errorIn(start + "0^");
             errorIn(start + "0^1");
+            errorIn(start + "4:^");
             errorIn(start + "99");
             errorIn(start + "499");
             errorIn(start + "500");
