@@ -42,6 +42,198 @@ final class Scenes {
         return x;
     }
 
+    /**
+     * Brands of kind 0 and shops, so many: each brewery has 20 empty bottles and some full ones, each shop 2 crates, 4
+     * full and 14 empty bottles of each brand; 6 of each brand are out for each shop. Six states are saved.
+     */
+    static BottleLoop busy(int brands, int shops) {
+        BottleLoop x = new BottleLoop();
+        for (int shop = 0; shop < shops; shop++) {
+            x.addShop(100000);
+        }
+        x.buyCrates(500);
+        for (int brand = 0; brand < brands; brand++) {
+            x.addBrand(0, 200);
+            x.fill(brand, 180);
+            for (int shop = 0; shop < shops; shop++) {
+                x.deliver(brand, shop, 2);
+                x.sell(shop, brand, 20);
+                x.takeBack(shop, brand, 14);
+            }
+        }
+        for (int i = 0; i < 6; i++) {
+            x.buyCrates(1);
+        }
+        return x;
+    }
+
+    /** As a busy loop of three brands and two shops, but two more states can be saved. */
+    static BottleLoop roomy() {
+        BottleLoop x = busy(3, 2);
+        x.undo();
+        x.undo();
+        return x;
+    }
+
+    /** Brand 0 has so many full bottles, up to 999, none of them worn out; a crate of them costs the shop 252. */
+    static BottleLoop stocked(int full, int crates, int money) {
+        BottleLoop x = new BottleLoop();
+        x.set(5, 1000);
+        x.addBrand(0, full);
+        x.addShop(money);
+        if (crates > 0) {
+            x.buyCrates(crates);
+        }
+        if (full > 0) {
+            x.fill(0, full);
+        }
+        return x;
+    }
+
+    /** 24 bottles of brand 0 are out; shop 2 has so much money. */
+    static BottleLoop sold(int money) {
+        BottleLoop x = Scenes.delivered();
+        x.addShop(money);
+        x.sell(0, 0, 24);
+        return x;
+    }
+
+    /** 600 full bottles of a kind in the brewery, 50 crates, a rich shop, and these prices. */
+    static BottleLoop priced(int kind, int bottle, int crate, int pool) {
+        BottleLoop x = new BottleLoop();
+        x.set(kind, bottle);
+        x.set(3, crate);
+        x.set(4, pool);
+        x.set(5, 1000);
+        x.addBrand(kind, 600);
+        x.addShop(100000);
+        x.buyCrates(50);
+        x.fill(0, 600);
+        return x;
+    }
+
+    /**
+     * Six brands, two of each kind, with numbers that differ from those of their kinds, and four shops; at each place
+     * there are some bottles of each brand, but in the yard, and not as many of each.
+     */
+    static BottleLoop varied() {
+        BottleLoop x = new BottleLoop();
+        for (int shop = 0; shop < 4; shop++) {
+            x.addShop(30000 + 1000 * shop);
+        }
+        x.buyCrates(90);
+        for (int brand = 0; brand < 6; brand++) {
+            x.addBrand((brand + 2) % 3, 300 + brand);
+            x.fill(brand, 240 + brand);
+            for (int shop = 0; shop < 4; shop++) {
+                x.deliver(brand, shop, 3);
+                x.sell(shop, brand, 24 + (2 * brand + shop) % 5);
+                x.takeBack(shop, brand, 15 + (brand + 3 * shop) % 7);
+            }
+        }
+        return x;
+    }
+
+    /** Shop 0 has so many empty bottles of brand 0, 1 to 500, and the crates in which these just find room. */
+    static BottleLoop returned(int empty) {
+        int crates = (empty + 11) / 12;
+        BottleLoop x = stocked(12 * crates, crates, 50000);
+        x.addShop(50000);
+        x.deliver(0, 0, crates);
+        x.sell(0, 0, empty);
+        x.takeBack(0, 0, empty);
+        return x;
+    }
+
+    /** Shop 1 has so many empty bottles of brand 0, 1 to 120, and so many crates; others are still out. */
+    static BottleLoop backElsewhere(int empty, int crates) {
+        BottleLoop x = returned(120);
+        x.undo();
+        x.addBrand(1, 120);
+        x.fill(1, 120);
+        x.buyCrates(10);
+        if (crates > 0) {
+            x.deliver(1, 1, crates);
+        }
+        x.takeBack(1, 0, empty);
+        return x;
+    }
+
+    /** A crate of kind 0 costs 12 alone, and of 1000 fillings one wears a bottle out. */
+    static BottleLoop cheap() {
+        BottleLoop x = new BottleLoop();
+        x.set(0, 1);
+        x.set(3, 0);
+        x.set(4, 0);
+        x.set(5, 1000);
+        return x;
+    }
+
+    /** Brands 0 and 1 of kind 0 with 5000 bottles each, 4995 of brand 0 full; 1000 crates; two shops; low deposits. */
+    static BottleLoop great() {
+        BottleLoop x = cheap();
+        x.addBrand(0, 5000);
+        x.addBrand(0, 5000);
+        x.addShop(100000);
+        x.addShop(100000);
+        x.buyCrates(500);
+        x.buyCrates(500);
+        x.fill(0, 5000);
+        return x;
+    }
+
+    /** Shop 0 has 600 full bottles of brand 0, in 50 crates. */
+    static BottleLoop greatShop() {
+        BottleLoop x = great();
+        x.deliver(0, 0, 50);
+        return x;
+    }
+
+    /** As greatShop(), and these bottles are out. */
+    static BottleLoop greatSale() {
+        BottleLoop x = greatShop();
+        x.sell(0, 0, 500);
+        x.sell(0, 0, 100);
+        return x;
+    }
+
+    /** As greatSale(), and shop 0 has these bottles again, empty. */
+    static BottleLoop greatReturn() {
+        BottleLoop x = greatSale();
+        x.takeBack(0, 0, 500);
+        x.takeBack(0, 0, 100);
+        return x;
+    }
+
+    /** 5040 bottles of brand 0 are out. */
+    static BottleLoop greatOut() {
+        BottleLoop x = great();
+        x.swap(1, 0, 100);
+        x.fill(0, 100);
+        for (int i = 0; i < 10; i++) {
+            x.deliver(0, 0, 42);
+            x.sell(0, 0, 500);
+            x.sell(0, 0, 4);
+        }
+        return x;
+    }
+
+    /** 4800 bottles of brand 0 and 600 of brand 1 are in the yard. */
+    static BottleLoop greatYard() {
+        BottleLoop x = great();
+        x.fill(1, 700);
+        for (int round = 0; round < 9; round++) {
+            int brand = round < 8 ? 0 : 1;
+            x.deliver(brand, 0, 50);
+            x.sell(0, brand, 500);
+            x.sell(0, brand, 100);
+            x.takeBack(0, brand, 500);
+            x.takeBack(0, brand, 100);
+            x.collect(0, 0, 50);
+        }
+        return x;
+    }
+
     static void write(BottleLoop x, String text) {
         for (int i = 0; i < text.length(); i++) {
             x.append(text.charAt(i));

@@ -1,6 +1,3 @@
-import java.util.ArrayList;
-import java.util.List;
-
 /** Promises 24 to 31: what would be, and the hash. */
 public final class WouldBeTest {
     private final Checks checks = new Checks();
@@ -216,74 +213,28 @@ public final class WouldBeTest {
         return x;
     }
 
-    private static long hashOf(BottleLoop x, String buffer) {
-        List<Long> values = new ArrayList<>();
-        for (int what = 0; what <= 10; what++) {
-            values.add((long) x.count(what));
-        }
-        for (int setting = 0; setting <= 5; setting++) {
-            values.add((long) x.setting(setting));
-        }
-        for (int brand = 0; brand < x.count(0); brand++) {
-            addBrand(values, x, brand);
-        }
-        for (int shop = 0; shop < x.count(1); shop++) {
-            for (int what = 0; what <= 27; what++) {
-                if (what <= 6 || what >= 10 && what <= 17 || what >= 20) {
-                    values.add((long) x.shop(shop, what));
-                }
-            }
-        }
-        for (int kind = 0; kind <= 2; kind++) {
-            values.add((long) x.bestShop(kind));
-        }
-        for (int shop = 0; shop < x.count(1); shop++) {
-            for (int brand = 0; brand < x.count(0); brand++) {
-                values.add((long) x.collected(shop, brand, 1));
-            }
-        }
-        values.add(Double.doubleToLongBits(x.goneShare()));
-        values.add((long) buffer.length());
-        buffer.chars().forEach(code -> values.add((long) code));
-        long hash = 2411;
-        for (long value : values) {
-            hash = 31 * hash + value;
-        }
-        return hash;
-    }
-
-    private static void addBrand(List<Long> values, BottleLoop x, int brand) {
-        for (int what = 0; what <= 11; what++) {
-            values.add((long) x.brand(brand, what));
-        }
-        values.add((long) x.filled(brand, 25));
-        for (int shop = 0; shop < x.count(1); shop++) {
-            values.add((long) x.mostCrates(brand, shop));
-        }
-    }
-
     private void digest() {
         checks.begin("promise 31");
         BottleLoop[] loops = {
             new BottleLoop(), Scenes.empty(), Scenes.filled(), Scenes.delivered(), Scenes.takenBack()};
         for (BottleLoop x : loops) {
-            checks.same("without a text", x.digest(), hashOf(x, ""));
+            checks.same("without a text", x.digest(), Hash.of(x, ""));
             Scenes.write(x, "d0>0*1;~!");
-            checks.same("with a text", x.digest(), hashOf(x, "d0>0*1;~!"));
+            checks.same("with a text", x.digest(), Hash.of(x, "d0>0*1;~!"));
         }
         sharesInHash();
     }
 
     /** Shares of many sizes, since their bits are worked out without Double: gone bottles of all up to all of them. */
     private void sharesInHash() {
-        checks.same("with a share of 1.0", gone().digest(), hashOf(gone(), ""));
+        checks.same("with a share of 1.0", gone().digest(), Hash.of(gone(), ""));
         for (int bottles = 1; bottles <= 5000; bottles += 1 + bottles / 9) {
             BottleLoop x = new BottleLoop();
             x.addBrand(2, bottles);
             x.set(5, 2);
             for (int i = 0; i < 40 && x.brand(0, 1) > 0; i++) {
                 x.fill(0, 1 + (x.brand(0, 1) - 1) / 3);
-                checks.same("with a share of " + x.goneShare(), x.digest(), hashOf(x, ""));
+                checks.same("with a share of " + x.goneShare(), x.digest(), Hash.of(x, ""));
             }
         }
     }
